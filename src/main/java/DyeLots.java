@@ -182,7 +182,7 @@ public final class DyeLots {
             return OUTSIDE;
         }
         Part it = work.parts[part];
-        if (!it.isKnitted() || it.isMixed()) {
+        if (!work.hasLot(it.first) || it.isMixed()) {
             return STATE;
         }
         int more = rows - it.tookFirst;
