@@ -1,3 +1,5 @@
+import java.util.List;
+
 /** One object under test, and what its calls owe: a test makes one for each run of calls. */
 final class Due {
     private static int wrong = 0;
@@ -25,6 +27,18 @@ final class Due {
         }
     }
 
+    /** Whether two looks are alike, line by line. */
+    void same(String when, List<String> got, List<String> want) {
+        is(when + ", lines", got.size(), want.size());
+        for (int line = 0; line < Math.min(got.size(), want.size()); line++) {
+            asked++;
+            if (!got.get(line).equals(want.get(line))) {
+                wrong++;
+                System.out.println(run + ": " + when + " is " + got.get(line) + ", due is " + want.get(line));
+            }
+        }
+    }
+
     void type(String text) {
         for (int at = 0; at < text.length(); at++) {
             x.letter(text.charAt(at));
@@ -44,6 +58,21 @@ final class Due {
             x.buy(lot, Math.min(9, left));
         }
         is("balls of lot " + lot, x.lotOf(lot, 1), balls);
+    }
+
+    /** A new lot with just so many loose rows (0 to 15) and no ball: the others went into a part of one row. */
+    void looseLot(int shade, int part, int loose) {
+        int lot = x.lot(shade);
+        x.buy(lot, 4);
+        x.knit(part, lot, lot);
+        x.gauge(part, 16);
+        x.gauge(part, 16 - loose);
+        lotIs(lot, 0, loose);
+    }
+
+    void lotIs(int lot, int balls, int loose) {
+        is("balls of lot " + lot, x.lotOf(lot, 1), balls);
+        is("loose rows of lot " + lot, x.lotOf(lot, 2), loose);
     }
 
     static void end() {
