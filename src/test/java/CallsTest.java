@@ -20,6 +20,7 @@ public final class CallsTest {
         faultIsTheFirst();
         garmentIsTheWhole();
         garmentTakesAllAway();
+        garmentOfFewerParts();
         garmentEmptiesThePage();
         aboutByNumbers();
         aboutWhatIsNot();
@@ -162,6 +163,20 @@ public final class CallsTest {
             d.same("the next one", Look.at(d.x), Look.at(bare.x));
             d.same("the next one goes on", Look.goingOn(d.x), Look.goingOn(bare.x));
         }
+    }
+
+    private static void garmentOfFewerParts() {
+        Due d = Due.of("5 garment: PARTS of another one are gone", "b9,b9,b9,b9,b9;0");
+        d.read("b1,b1;0");
+        d.lot(3, 1);
+        d.is("least(0): no rows for PARTS that are gone", d.x.least(0), 0);
+        d.is("least(11)", d.x.least(11), 0);
+        d.is("least(12)", d.x.least(12), NONE);
+        d.is("wanted(0, 0)", d.x.wanted(0, 0), 0);
+        d.x.knit(0, 0, 0);
+        d.x.knit(1, 0, 0);
+        d.is("least(0) of all KNITTED", d.x.least(0), 0);
+        d.is("count(3)", d.x.count(3), 2);
     }
 
     private static void garmentEmptiesThePage() {
@@ -649,5 +664,14 @@ public final class CallsTest {
                 9,
                 'b',
                 2, 1, 2, 1, 0, 0, 5, 1, 1, 1, 1));
+        d.x.gauge(1, 6);
+        d.is("digest() with what is WANTED by GAUGE", d.x.digest(), hashOf(
+                1, 3, 4, -1, -1, -1, 0, 0, 0, -1,
+                4, 9, 0, 1, -1, 12, 0, 6, -1, -1,
+                20, 0, 2, 1, 0,
+                6, 0, 5, 0, 0,
+                9,
+                'b',
+                2, 1, 2, 1, 0, 0, 7, 1, 1, 1, 1));
     }
 }

@@ -5,6 +5,7 @@ final class Due {
     private static int wrong = 0;
     private static int asked = 0;
 
+    private int answers = 0;
     final String run;
     final DyeLots x = new DyeLots();
 
@@ -21,10 +22,16 @@ final class Due {
 
     void is(String call, long got, long want) {
         asked++;
+        answers++;
         if (got != want) {
             wrong++;
             System.out.println(run + ": " + call + " answered " + got + ", due is " + want);
         }
+    }
+
+    /** How many answers of this object were held against what is due. */
+    int answers() {
+        return answers;
     }
 
     /** Whether two looks are alike, line by line. */

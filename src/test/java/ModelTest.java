@@ -8,7 +8,10 @@ import java.util.Random;
  */
 public final class ModelTest {
     private static final int RUNS = 700;
-    private static final int CALLS = 500;
+    /** What is promised of one object. */
+    private static final int CALLS = 512;
+    /** A garment typed (blank, 16 letters, fault, garment), a letter with its fault, a digest. */
+    private static final int CALLS_OF_A_STEP = 19 + 2 + 1;
 
     private final Random random;
     private final Due due;
@@ -29,18 +32,19 @@ public final class ModelTest {
     }
 
     private void play() {
-        for (int calls = 0; calls < CALLS; ) {
-            calls += random.nextInt(60) == 0 || calls == 0 ? typeGarment() : 0;
+        typeGarment();
+        while (due.answers() + CALLS_OF_A_STEP <= CALLS) {
+            if (random.nextInt(60) == 0) {
+                typeGarment();
+            }
             callOnce(random.nextInt(26));
-            calls++;
             if (random.nextInt(16) == 0) {
                 due.is("digest()", x.digest(), model.digest());
-                calls++;
             }
         }
     }
 
-    private int typeGarment() {
+    private void typeGarment() {
         StringBuilder text = new StringBuilder();
         int parts = 2 + random.nextInt(4);
         boolean fewRows = random.nextBoolean();
@@ -58,7 +62,6 @@ public final class ModelTest {
         }
         due.is("fault() of " + text, x.fault(), model.fault());
         due.is("garment() of " + text, x.garment(), model.garment());
-        return text.length() + 3;
     }
 
     /** Mostly a number from 0 to most, at times one about its edges. */

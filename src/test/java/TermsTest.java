@@ -380,22 +380,31 @@ public final class TermsTest {
         }
     }
 
+    /** Beside another PART of which twice its ROWS are told, so that it shows whether 8 rows more are. */
     private static void whatGaugeToldGoesToo() {
-        Due d = Due.of("what GAUGE told of it goes, too", "p1,p2,p8;0");
-        d.lot(5, 9);
+        Due d = Due.of("what GAUGE told of it goes, too", "p8,p2,p8;0");
+        d.lot(5, 20);
         d.lot(5, 0);
-        d.x.knit(0, 0, 0);
-        d.x.gauge(0, 2);
-        d.is("wanted(1, 1): 10 rows by 2", d.x.wanted(1, 1), 5);
+        d.x.lot(5);
+        d.x.buy(2, 2);
         d.x.knit(1, 0, 0);
-        d.x.gauge(1, 2);
-        d.is("wanted(1, 1): 8 rows by 4 by 3", d.x.wanted(1, 1), 3);
-        d.x.undo(0);
-        d.is("wanted(1, 1): 9 rows by 1", d.x.wanted(1, 1), 3);
+        d.x.gauge(1, 4);
+        d.is("wanted(1, 1): 16 rows by 2", d.x.wanted(1, 1), 8);
         d.x.knit(0, 0, 0);
-        d.is("wanted(1, 1): of part 0 nothing is told", d.x.wanted(1, 1), 2);
-        d.x.gauge(0, 3);
-        d.is("wanted(1, 1): 8 rows by 5 by 3", d.x.wanted(1, 1), 4);
+        d.is("wanted(1, 1): 8 rows by 2", d.x.wanted(1, 1), 4);
+        d.x.gauge(0, 9);
+        d.is("wanted(1, 1): 8 rows by 13 by 10", d.x.wanted(1, 1), 3);
+        d.x.undo(0);
+        d.is("wanted(1, 1): 16 rows by 2 again", d.x.wanted(1, 1), 8);
+        d.x.knit(0, 0, 0);
+        d.is("wanted(1, 1): KNITTED again, of it nothing is told", d.x.wanted(1, 1), 4);
+        d.x.gauge(0, 9);
+        d.x.undo(0);
+        d.x.knit(0, 0, 2);
+        d.is("wanted(1, 1): MIXED now, of it nothing is told", d.x.wanted(1, 1), 4);
+        d.x.undo(1);
+        d.x.knit(1, 0, 0);
+        d.is("wanted(1, 1): nothing is told any more", d.x.wanted(1, 1), 2);
     }
 
     private static void gaugeOneToEighteen() {
@@ -594,14 +603,16 @@ public final class TermsTest {
     }
 
     private static Due imaged(String run) {
-        Due d = Due.of(run, "b5,s6,s2,c3;2");
+        Due d = Due.of(run, "b5,s6,s2,c9;2");
         d.lot(4, 9);
-        d.lot(17, 9);
+        d.lot(17, 4);
         d.x.knit(0, 0, 0);
         d.x.knit(1, 0, 1);
         d.x.knit(2, 1, 1);
         d.x.gauge(2, 5);
         d.x.found(0, 33);
+        d.is("wanted(1, 0)", d.x.wanted(1, 0), 1);
+        d.is("wanted(1, 1): what GAUGE told shows", d.x.wanted(1, 1), 4);
         return d;
     }
 
