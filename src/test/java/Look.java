@@ -33,7 +33,6 @@ final class Look {
     static List<String> goingOn(DyeLots x) {
         Look look = new Look(x);
         look.tell("least(0)", x.least(0));
-        look.tell("garment()", x.garment());
         look.tell("wash()", x.wash());
         look.tell("lot(6)", x.lot(6));
         for (int lot = 0; lot < 3; lot++) {
@@ -45,6 +44,7 @@ final class Look {
         }
         look.tell("restore()", x.restore());
         look.told.addAll(at(x));
+        look.tell("garment()", x.garment());
         return look.told;
     }
 

@@ -101,6 +101,18 @@ public final class RefusalsTest {
         d.x.image();
     }
 
+    /** Of one part gauge told, of the next one it did not yet; a row is left, and none of another lot. */
+    private static void withOneTold(Due d) {
+        d.read("b5,s6,s1,h4;2");
+        d.lot(4, 4);
+        d.lot(17, 0);
+        d.x.knit(0, 0, 0);
+        d.x.gauge(0, 9);
+        d.x.knit(1, 0, 0);
+        d.lotIs(0, 0, 1);
+        d.is("wanted(1, 1): 5 rows by 9 by 5", d.x.wanted(1, 1), 3);
+    }
+
     private static void withFullPage(Due d) {
         inWork(d);
         d.type("pppppppppppp");
@@ -286,6 +298,9 @@ public final class RefusalsTest {
             refused("gauge(0, " + rows + ") without lots", RefusalsTest::bare, x -> x.gauge(0, rows), STATE);
         }
         refused("gauge(0, 18): 11 of 10 rows", RefusalsTest::inWork, x -> x.gauge(0, 18), STATE);
+        refused("gauge(0, 11): 2 of 1 row", RefusalsTest::withOneTold, x -> x.gauge(0, 11), STATE);
+        refused("gauge(1, 8): 2 of 1 row, nothing told", RefusalsTest::withOneTold, x -> x.gauge(1, 8), STATE);
+        refused("gauge(1, 18): 12 of 1 row, nothing told", RefusalsTest::withOneTold, x -> x.gauge(1, 18), STATE);
     }
 
     private static void wash() {
